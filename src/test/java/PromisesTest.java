@@ -13,6 +13,7 @@ final class PromisesTest {
         promise6Item();
         promise7Repeats();
         promise7RepeatsOfOneItem();
+        promise7ManyRepeats();
         promise8Repeat();
         promise9Passages();
         promise10Period();
@@ -251,6 +252,23 @@ final class PromisesTest {
         }
         CHECKS.due("repeats of 59 steps alike", 58, () -> x.repeats(1, 1));
         CHECKS.due("repeats of 60 alike, 59 at least", 1, () -> x.repeats(4, 59));
+    }
+
+    /** a a b b, again and again: 14 long repeats, and 450 of one item. */
+    private static void promise7ManyRepeats() {
+        FormFinds x = new FormFinds();
+        for (int i = 0; i < 60; i++) {
+            x.note(60 + i / 2 % 2, 1);
+        }
+        CHECKS.due("repeats of aabb..", 464, () -> x.repeats(0, 1));
+        int[][] want = {{0, 0, 4, 56}, {13, 0, 56, 4}, {14, 0, 1, 1}, {463, 58, 59, 1}};
+        for (int[] w : want) {
+            for (int what = 0; what <= 2; what++) {
+                int n = what;
+                CHECKS.due("repeat(" + w[0] + ", " + n + ")", w[n + 1], () -> x.repeat(w[0], n));
+            }
+        }
+        CHECKS.illegalArgument("repeat(464, 0)", () -> x.repeat(464, 0));
     }
 
     private static void promise8Repeat() {
