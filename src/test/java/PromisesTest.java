@@ -1,7 +1,7 @@
 /** Each promise of the document by hand: ordinary inputs, the edges it names, wrong inputs. */
 final class PromisesTest {
-    private static final int LOW = Integer.MIN_VALUE;
-    private static final int HIGH = Integer.MAX_VALUE;
+    private static final int LOW = Rows.LOW;
+    private static final int HIGH = Rows.HIGH;
     private static final Checks CHECKS = new Checks();
 
     public static void main(String[] args) {
@@ -34,32 +34,6 @@ final class PromisesTest {
         CHECKS.finish();
     }
 
-    /** An object with notes told as pitch, length, pitch, length, .. */
-    private static FormFinds with(int... pitchesAndLengths) {
-        FormFinds x = new FormFinds();
-        for (int i = 0; i + 1 < pitchesAndLengths.length; i += 2) {
-            x.note(pitchesAndLengths[i], pitchesAndLengths[i + 1]);
-        }
-        return x;
-    }
-
-    /** An object with notes of length 1. */
-    private static FormFinds pitches(int... pitches) {
-        FormFinds x = new FormFinds();
-        for (int pitch : pitches) {
-            x.note(pitch, 1);
-        }
-        return x;
-    }
-
-    private static FormFinds full() {
-        FormFinds x = new FormFinds();
-        for (int i = 0; i < 60; i++) {
-            x.note(64, 1);
-        }
-        return x;
-    }
-
     private static void isAsNew(String when, FormFinds x) {
         for (int what = 0; what <= 4; what++) {
             int w = what;
@@ -78,54 +52,12 @@ final class PromisesTest {
         CHECKS.illegalState(when + " entries(0, 0)", () -> x.entries(0, 0));
     }
 
-    /** The repeats found last as a text: i,j,m for each. */
-    private static String listOfRepeats(FormFinds x) {
-        StringBuilder text = new StringBuilder();
-        for (int k = 0; k < x.of(4); k++) {
-            text.append('(').append(x.repeat(k, 0)).append(',').append(x.repeat(k, 1)).append(',')
-                .append(x.repeat(k, 2)).append(')');
-        }
-        return text.toString();
-    }
-
-    private static String listOfFound(FormFinds x) {
-        StringBuilder text = new StringBuilder();
-        for (int k = 0; x.found(k) != FormFinds.NONE; k++) {
-            text.append(x.found(k)).append(' ');
-        }
-        return text.toString();
-    }
-
-    private static String listOfSections(FormFinds x) {
-        StringBuilder text = new StringBuilder();
-        for (int k = 0; x.section(k) != FormFinds.NONE; k++) {
-            text.append(x.section(k)).append(' ');
-        }
-        return text.append("cost ").append(x.of(2)).toString();
-    }
-
-    private static String listOfForm(FormFinds x, int form) {
-        StringBuilder text = new StringBuilder();
-        for (int i = 0; i < x.of(1); i++) {
-            text.append(x.form(form, i, 0)).append('/').append(x.form(form, i, 1)).append(' ');
-        }
-        return text.toString();
-    }
-
-    private static String listOfItems(FormFinds x, int view) {
-        StringBuilder text = new StringBuilder();
-        for (int i = 0; i < x.items(view); i++) {
-            text.append(x.item(view, i)).append(' ');
-        }
-        return text.toString();
-    }
-
     private static void promise1NewObject() {
         isAsNew("new", new FormFinds());
     }
 
     private static void promise2Clear() {
-        FormFinds x = pitches(60, 60, 62, 60);
+        FormFinds x = Rows.pitches(60, 60, 62, 60);
         x.motive(0, 2);
         x.find(0, 0, 0);
         x.repeats(0, 1);
@@ -134,7 +66,7 @@ final class PromisesTest {
         isAsNew("cleared", x);
         CHECKS.due("clear() of none", 0, x::clear);
         CHECKS.due("note behind clear()", 0, () -> x.note(1, 1));
-        CHECKS.due("clear() of 60", 60, full()::clear);
+        CHECKS.due("clear() of 60", 60, Rows.full()::clear);
     }
 
     private static void promise3Note() {
@@ -159,28 +91,28 @@ final class PromisesTest {
     }
 
     private static void promise4Drop() {
-        FormFinds x = with(60, 1, 61, 2, 62, 3);
+        FormFinds x = Rows.with(60, 1, 61, 2, 62, 3);
         CHECKS.due("drop(0)", 3, () -> x.drop(0));
         CHECKS.illegalArgument("drop(4) of 3", () -> x.drop(4));
         CHECKS.illegalArgument("drop(-1)", () -> x.drop(-1));
         CHECKS.illegalArgument("drop(LOW)", () -> x.drop(LOW));
         CHECKS.illegalArgument("drop(HIGH)", () -> x.drop(HIGH));
         CHECKS.due("drop(1)", 2, () -> x.drop(1));
-        CHECKS.same("those that are left", "60001 61002 ", listOfItems(x, 4));
+        CHECKS.same("those that are left", "60001 61002 ", Rows.items(x, 4));
         CHECKS.due("note behind drop", 2, () -> x.note(70, 9));
-        CHECKS.same("the new one", "60001 61002 70009 ", listOfItems(x, 4));
+        CHECKS.same("the new one", "60001 61002 70009 ", Rows.items(x, 4));
         CHECKS.due("drop(3)", 0, () -> x.drop(3));
         CHECKS.illegalArgument("drop(1) of none", () -> x.drop(1));
         CHECKS.due("drop(0) of none", 0, () -> x.drop(0));
-        FormFinds y = full();
+        FormFinds y = Rows.full();
         y.drop(1);
         CHECKS.due("note 59 again", 59, () -> y.note(1, 1));
     }
 
     private static void promise5Items() {
         FormFinds none = new FormFinds();
-        FormFinds one = pitches(60);
-        FormFinds all = full();
+        FormFinds one = Rows.pitches(60);
+        FormFinds all = Rows.full();
         int[] oneLess = {0, 1, 1, 0, 0};
         for (int view = 0; view <= 4; view++) {
             int v = view;
@@ -194,12 +126,12 @@ final class PromisesTest {
     }
 
     private static void promise6Item() {
-        FormFinds x = with(60, 4, 67, 2, 67, 999, 0, 1, 127, 8);
-        CHECKS.same("pitches", "60 67 67 0 127 ", listOfItems(x, 0));
-        CHECKS.same("steps", "7 0 -67 127 ", listOfItems(x, 1));
-        CHECKS.same("turns", "1 0 -1 1 ", listOfItems(x, 2));
-        CHECKS.same("lengths", "4 2 999 1 8 ", listOfItems(x, 3));
-        CHECKS.same("pitches and lengths", "60004 67002 67999 1 127008 ", listOfItems(x, 4));
+        FormFinds x = Rows.with(60, 4, 67, 2, 67, 999, 0, 1, 127, 8);
+        CHECKS.same("pitches", "60 67 67 0 127 ", Rows.items(x, 0));
+        CHECKS.same("steps", "7 0 -67 127 ", Rows.items(x, 1));
+        CHECKS.same("turns", "1 0 -1 1 ", Rows.items(x, 2));
+        CHECKS.same("lengths", "4 2 999 1 8 ", Rows.items(x, 3));
+        CHECKS.same("pitches and lengths", "60004 67002 67999 1 127008 ", Rows.items(x, 4));
         for (int view = 0; view <= 4; view++) {
             int v = view;
             int behind = x.items(v);
@@ -210,28 +142,28 @@ final class PromisesTest {
         }
         CHECKS.illegalArgument("item(-1, 0)", () -> x.item(-1, 0));
         CHECKS.illegalArgument("item(5, 0)", () -> x.item(5, 0));
-        CHECKS.illegalArgument("step of one note", () -> pitches(1).item(1, 0));
+        CHECKS.illegalArgument("step of one note", () -> Rows.pitches(1).item(1, 0));
     }
 
     private static void promise7Repeats() {
         // a b a b a: over one another, and the order of those of one length
-        FormFinds x = pitches(60, 62, 60, 62, 60);
+        FormFinds x = Rows.pitches(60, 62, 60, 62, 60);
         CHECKS.due("repeats of ababa", 2, () -> x.repeats(0, 1));
-        CHECKS.same("ababa", "(0,2,3)(0,4,1)", listOfRepeats(x));
+        CHECKS.same("ababa", "(0,2,3)(0,4,1)", Rows.repeats(x));
         CHECKS.due("repeats of ababa, 2 at least", 1, () -> x.repeats(0, 2));
         CHECKS.due("repeats of ababa, 3 at least", 1, () -> x.repeats(0, 3));
         CHECKS.due("repeats of ababa, 4 at least", 0, () -> x.repeats(0, 4));
         CHECKS.due("repeats of ababa, 60 at least", 0, () -> x.repeats(0, 60));
         // a b c a b d a b: greater m first, then lesser i, then lesser j
-        FormFinds y = with(1, 1, 2, 1, 3, 2, 1, 1, 2, 1, 4, 3, 1, 1, 2, 2);
+        FormFinds y = Rows.with(1, 1, 2, 1, 3, 2, 1, 1, 2, 1, 4, 3, 1, 1, 2, 2);
         y.repeats(0, 1);
-        CHECKS.same("abcabdab", "(0,3,2)(0,6,2)(3,6,2)", listOfRepeats(y));
+        CHECKS.same("abcabdab", "(0,3,2)(0,6,2)(3,6,2)", Rows.repeats(y));
         y.repeats(4, 1);
-        CHECKS.same("abcabdaB", "(0,3,2)(0,6,1)(3,6,1)", listOfRepeats(y));
+        CHECKS.same("abcabdaB", "(0,3,2)(0,6,1)(3,6,1)", Rows.repeats(y));
         y.repeats(1, 1);
-        CHECKS.same("steps of abcabdab", "(0,1,1)(0,3,1)(0,6,1)(1,3,1)(1,6,1)(3,6,1)", listOfRepeats(y));
+        CHECKS.same("steps of abcabdab", "(0,1,1)(0,3,1)(0,6,1)(1,3,1)(1,6,1)(3,6,1)", Rows.repeats(y));
         y.repeats(3, 2);
-        CHECKS.same("lengths of it", "(0,3,2)(1,6,2)", listOfRepeats(y));
+        CHECKS.same("lengths of it", "(0,3,2)(1,6,2)", Rows.repeats(y));
         for (int wrong : new int[] {LOW, -1, 5, HIGH}) {
             CHECKS.illegalArgument("repeats of view " + wrong, () -> x.repeats(wrong, 1));
         }
@@ -239,11 +171,11 @@ final class PromisesTest {
             CHECKS.illegalArgument("repeats of at least " + wrong, () -> x.repeats(0, wrong));
         }
         CHECKS.due("repeats of no notes", 0, () -> new FormFinds().repeats(0, 1));
-        CHECKS.due("repeats of one note", 0, () -> pitches(1).repeats(0, 1));
+        CHECKS.due("repeats of one note", 0, () -> Rows.pitches(1).repeats(0, 1));
     }
 
     private static void promise7RepeatsOfOneItem() {
-        FormFinds x = full();
+        FormFinds x = Rows.full();
         CHECKS.due("repeats of 60 alike", 59, () -> x.repeats(0, 1));
         for (int k : new int[] {0, 1, 30, 58}) {
             CHECKS.due("i of " + k, 0, () -> x.repeat(k, 0));
@@ -272,7 +204,7 @@ final class PromisesTest {
     }
 
     private static void promise8Repeat() {
-        FormFinds x = pitches(60, 62, 60, 62, 60);
+        FormFinds x = Rows.pitches(60, 62, 60, 62, 60);
         CHECKS.illegalArgument("repeat(0, 0) before any", () -> x.repeat(0, 0));
         x.repeats(0, 1);
         for (int wrong : new int[] {LOW, -1, 2, HIGH}) {
@@ -289,7 +221,7 @@ final class PromisesTest {
     }
 
     private static void promise9Passages() {
-        FormFinds x = with(60, 1, 62, 1, 60, 2, 62, 1, 60, 1);
+        FormFinds x = Rows.with(60, 1, 62, 1, 60, 2, 62, 1, 60, 1);
         int[][] want = {{2, 2, 2, 2, 1, 0}, {2, 2, 2, 1, 0, 0}, {2, 2, 2, 1, 0, 0}, {2, 3, 3, 2, 1, 0},
             {3, 4, 3, 2, 1, 0}};
         for (int view = 0; view <= 4; view++) {
@@ -300,8 +232,8 @@ final class PromisesTest {
             }
         }
         CHECKS.due("passages(0, 60)", 0, () -> x.passages(0, 60));
-        CHECKS.due("passages of 60 alike", 1, () -> full().passages(0, 60));
-        CHECKS.due("passages of 59 steps", 0, () -> full().passages(1, 60));
+        CHECKS.due("passages of 60 alike", 1, () -> Rows.full().passages(0, 60));
+        CHECKS.due("passages of 59 steps", 0, () -> Rows.full().passages(1, 60));
         CHECKS.due("passages of none", 0, () -> new FormFinds().passages(0, 1));
         for (int wrong : new int[] {LOW, -1, 0, 61, HIGH}) {
             CHECKS.illegalArgument("passages(0, " + wrong + ")", () -> x.passages(0, wrong));
@@ -312,17 +244,17 @@ final class PromisesTest {
     }
 
     private static void promise10Period() {
-        FormFinds x = with(60, 1, 62, 1, 64, 1, 60, 1, 62, 1);
+        FormFinds x = Rows.with(60, 1, 62, 1, 64, 1, 60, 1, 62, 1);
         CHECKS.due("period of abcab", 3, () -> x.period(0));
         CHECKS.due("period of its steps", 3, () -> x.period(1));
         CHECKS.due("period of its lengths", 1, () -> x.period(3));
         CHECKS.due("period of both", 3, () -> x.period(4));
         x.note(60, 1);
         CHECKS.due("period of abcaba", 5, () -> x.period(0));
-        CHECKS.due("period of all different", 3, () -> pitches(1, 2, 3).period(0));
-        CHECKS.due("period of one", 1, () -> pitches(1).period(0));
-        CHECKS.due("period of the steps of one", 0, () -> pitches(1).period(1));
-        CHECKS.due("period of 60 alike", 1, () -> full().period(0));
+        CHECKS.due("period of all different", 3, () -> Rows.pitches(1, 2, 3).period(0));
+        CHECKS.due("period of one", 1, () -> Rows.pitches(1).period(0));
+        CHECKS.due("period of the steps of one", 0, () -> Rows.pitches(1).period(1));
+        CHECKS.due("period of 60 alike", 1, () -> Rows.full().period(0));
         for (int view = 0; view <= 4; view++) {
             int v = view;
             CHECKS.due("period of none", 0, () -> new FormFinds().period(v));
@@ -333,7 +265,7 @@ final class PromisesTest {
     }
 
     private static void promise11Alike() {
-        FormFinds x = pitches(60, 62, 64, 60, 63, 64);
+        FormFinds x = Rows.pitches(60, 62, 64, 60, 63, 64);
         CHECKS.due("two of three alike, cut", 66, () -> x.alike(0, 0, 3, 3));
         CHECKS.due("steps not alike", 0, () -> x.alike(1, 0, 3, 2));
         CHECKS.due("turns alike", 100, () -> x.alike(2, 0, 3, 2));
@@ -366,7 +298,7 @@ final class PromisesTest {
     }
 
     private static void promise12Motive() {
-        FormFinds x = with(60, 1, 62, 2, 64, 3);
+        FormFinds x = Rows.with(60, 1, 62, 2, 64, 3);
         CHECKS.due("motive(1, 2)", 62, () -> x.motive(1, 2));
         CHECKS.due("its notes", 2, () -> x.of(1));
         for (int wrong : new int[] {LOW, -1, 0, 4, 13, HIGH}) {
@@ -376,13 +308,13 @@ final class PromisesTest {
             CHECKS.illegalArgument("motive(" + wrong + ", 2)", () -> x.motive(wrong, 2));
         }
         CHECKS.illegalArgument("motive of no notes", () -> new FormFinds().motive(0, 1));
-        CHECKS.same("the motive is still", "62/2 64/3 ", listOfForm(x, 0));
+        CHECKS.same("the motive is still", "62/2 64/3 ", Rows.form(x, 0));
         x.drop(3);
         x.note(1, 1);
-        CHECKS.same("as it was when told", "62/2 64/3 ", listOfForm(x, 0));
+        CHECKS.same("as it was when told", "62/2 64/3 ", Rows.form(x, 0));
         CHECKS.due("a lesser one", 1, () -> x.motive(0, 1));
-        CHECKS.same("the lesser one", "1/1 ", listOfForm(x, 0));
-        FormFinds all = full();
+        CHECKS.same("the lesser one", "1/1 ", Rows.form(x, 0));
+        FormFinds all = Rows.full();
         CHECKS.due("motive(48, 12)", 64, () -> all.motive(48, 12));
         CHECKS.illegalArgument("motive(49, 12)", () -> all.motive(49, 12));
         CHECKS.illegalArgument("motive(0, 13)", () -> all.motive(0, 13));
@@ -390,13 +322,13 @@ final class PromisesTest {
     }
 
     private static void promise13Form() {
-        FormFinds x = with(50, 9, 60, 1, 62, 2, 59, 3);
+        FormFinds x = Rows.with(50, 9, 60, 1, 62, 2, 59, 3);
         CHECKS.illegalArgument("form without a motive", () -> x.form(0, 0, 0));
         x.motive(1, 3);
-        CHECKS.same("as it is", "60/1 62/2 59/3 ", listOfForm(x, 0));
-        CHECKS.same("turned", "60/1 58/2 61/3 ", listOfForm(x, 1));
-        CHECKS.same("backwards", "59/3 62/2 60/1 ", listOfForm(x, 2));
-        CHECKS.same("backwards and turned", "59/3 56/2 58/1 ", listOfForm(x, 3));
+        CHECKS.same("as it is", "60/1 62/2 59/3 ", Rows.form(x, 0));
+        CHECKS.same("turned", "60/1 58/2 61/3 ", Rows.form(x, 1));
+        CHECKS.same("backwards", "59/3 62/2 60/1 ", Rows.form(x, 2));
+        CHECKS.same("backwards and turned", "59/3 56/2 58/1 ", Rows.form(x, 3));
         for (int wrong : new int[] {LOW, -1, 4, HIGH}) {
             CHECKS.illegalArgument("form(" + wrong + ", 0, 0)", () -> x.form(wrong, 0, 0));
         }
@@ -406,7 +338,7 @@ final class PromisesTest {
         for (int wrong : new int[] {LOW, -1, 2, HIGH}) {
             CHECKS.illegalArgument("form(0, 0, " + wrong + ")", () -> x.form(0, 0, wrong));
         }
-        FormFinds y = pitches(0, 127);
+        FormFinds y = Rows.pitches(0, 127);
         y.motive(0, 2);
         CHECKS.due("below 0", -127, () -> y.form(1, 1, 0));
         CHECKS.due("above 127", 254, () -> y.form(3, 1, 0));
@@ -414,23 +346,23 @@ final class PromisesTest {
 
     private static void promise14Find() {
         // up 2 and 3 at two pitches, then turned at two
-        FormFinds x = pitches(60, 62, 65, 60, 58, 55, 70, 72, 75, 73, 70);
+        FormFinds x = Rows.pitches(60, 62, 65, 60, 58, 55, 70, 72, 75, 73, 70);
         CHECKS.illegalState("find without a motive", () -> x.find(0, 1, 1));
         CHECKS.illegalArgument("wrong find without a motive", () -> x.find(4, 1, 1));
         x.motive(0, 3);
         CHECKS.due("as it is", 2, () -> x.find(0, 0, 0));
-        CHECKS.same("as it is", "0 6 ", listOfFound(x));
+        CHECKS.same("as it is", "0 6 ", Rows.found(x));
         CHECKS.due("turned", 2, () -> x.find(1, 0, 0));
-        CHECKS.same("turned", "3 8 ", listOfFound(x));
+        CHECKS.same("turned", "3 8 ", Rows.found(x));
         CHECKS.due("backwards", 0, () -> x.find(2, 0, 0));
         x.note(67, 1);
         x.note(65, 1);
         CHECKS.due("backwards", 1, () -> x.find(2, 0, 0));
-        CHECKS.same("backwards", "10 ", listOfFound(x));
+        CHECKS.same("backwards", "10 ", Rows.found(x));
         x.note(68, 1);
         x.note(70, 1);
         CHECKS.due("backwards and turned", 1, () -> x.find(3, 0, 0));
-        CHECKS.same("backwards and turned", "12 ", listOfFound(x));
+        CHECKS.same("backwards and turned", "12 ", Rows.found(x));
         for (int wrong : new int[] {LOW, -1, 4, HIGH}) {
             CHECKS.illegalArgument("find(" + wrong + ", 1, 1)", () -> x.find(wrong, 1, 1));
         }
@@ -448,25 +380,25 @@ final class PromisesTest {
     }
 
     private static void promise14FindInOtherLengths() {
-        FormFinds x = with(60, 2, 62, 4, 70, 4, 72, 8, 50, 1, 52, 2, 40, 3, 42, 6, 30, 4, 32, 4);
+        FormFinds x = Rows.with(60, 2, 62, 4, 70, 4, 72, 8, 50, 1, 52, 2, 40, 3, 42, 6, 30, 4, 32, 4);
         x.motive(0, 2);
         CHECKS.due("lengths do not count", 5, () -> x.find(0, 0, 0));
         CHECKS.due("same lengths", 1, () -> x.find(0, 1, 1));
         CHECKS.due("twice as long", 1, () -> x.find(0, 2, 1));
-        CHECKS.same("twice as long", "2 ", listOfFound(x));
+        CHECKS.same("twice as long", "2 ", Rows.found(x));
         CHECKS.due("half as long", 1, () -> x.find(0, 1, 2));
-        CHECKS.same("half as long", "4 ", listOfFound(x));
+        CHECKS.same("half as long", "4 ", Rows.found(x));
         CHECKS.due("three halves as long", 1, () -> x.find(0, 3, 2));
-        CHECKS.same("three halves as long", "6 ", listOfFound(x));
+        CHECKS.same("three halves as long", "6 ", Rows.found(x));
         CHECKS.due("six quarters as long", 1, () -> x.find(0, 6, 4));
         CHECKS.due("a third as long", 0, () -> x.find(0, 1, 3));
-        FormFinds y = with(60, 1, 62, 3, 60, 3, 58, 1, 60, 3, 62, 1);
+        FormFinds y = Rows.with(60, 1, 62, 3, 60, 3, 58, 1, 60, 3, 62, 1);
         y.motive(0, 2);
         CHECKS.due("backwards, its lengths too", 1, () -> y.find(2, 1, 1));
-        CHECKS.same("backwards", "2 ", listOfFound(y));
+        CHECKS.same("backwards", "2 ", Rows.found(y));
         CHECKS.due("backwards and turned, its lengths too", 1, () -> y.find(3, 1, 1));
-        CHECKS.same("backwards and turned", "4 ", listOfFound(y));
-        FormFinds one = with(60, 2, 10, 2, 20, 3);
+        CHECKS.same("backwards and turned", "4 ", Rows.found(y));
+        FormFinds one = Rows.with(60, 2, 10, 2, 20, 3);
         one.motive(0, 1);
         CHECKS.due("one note, lengths do not count", 3, () -> one.find(3, 0, 0));
         CHECKS.due("one note and its length", 2, () -> one.find(1, 5, 5));
@@ -474,7 +406,7 @@ final class PromisesTest {
     }
 
     private static void promise15Answer() {
-        FormFinds x = pitches(60, 67, 7, 64, 79);
+        FormFinds x = Rows.pitches(60, 67, 7, 64, 79);
         CHECKS.illegalArgument("answer without a motive", () -> x.answer(0, 0, 0));
         x.motive(0, 5);
         int[] allOfIt = {67, 72, 12, 71, 84};
@@ -496,7 +428,7 @@ final class PromisesTest {
         for (int wrong : new int[] {LOW, -1, 5, HIGH}) {
             CHECKS.illegalArgument("answer(0, 0, " + wrong + ")", () -> x.answer(0, 0, wrong));
         }
-        FormFinds low = pitches(6, 0, 127);
+        FormFinds low = Rows.pitches(6, 0, 127);
         low.motive(0, 3);
         CHECKS.due("6 is 7 above 11, modulo 12", 11, () -> low.answer(11, 1, 0));
         CHECKS.due("0 is 7 above 5, modulo 12", 5, () -> low.answer(5, 12, 1));
@@ -505,15 +437,15 @@ final class PromisesTest {
 
     private static void promise16Entries() {
         // c g e: the real answer g d b, the tonal one g c b
-        FormFinds x = with(60, 4, 67, 4, 64, 4, 67, 1, 74, 2, 71, 3, 67, 5, 72, 6, 71, 7);
+        FormFinds x = Rows.with(60, 4, 67, 4, 64, 4, 67, 1, 74, 2, 71, 3, 67, 5, 72, 6, 71, 7);
         CHECKS.illegalState("entries without a motive", () -> x.entries(0, 12));
         CHECKS.illegalArgument("wrong entries without a motive", () -> x.entries(12, 12));
         x.motive(0, 3);
         CHECKS.due("with a head", 1, () -> x.entries(0, 2));
-        CHECKS.same("with a head", "6 ", listOfFound(x));
+        CHECKS.same("with a head", "6 ", Rows.found(x));
         CHECKS.due("with a head of all", 1, () -> x.entries(0, 12));
         CHECKS.due("head of one", 2, () -> x.entries(0, 1));
-        CHECKS.same("head of one", "0 3 ", listOfFound(x));
+        CHECKS.same("head of one", "0 3 ", Rows.found(x));
         CHECKS.due("without a head", 2, () -> x.entries(0, 0));
         CHECKS.due("in another key", 2, () -> x.entries(1, 12));
         for (int wrong : new int[] {LOW, -1, 12, HIGH}) {
@@ -527,7 +459,7 @@ final class PromisesTest {
     }
 
     private static void promise17Found() {
-        FormFinds x = pitches(60, 62, 60, 62, 60);
+        FormFinds x = Rows.pitches(60, 62, 60, 62, 60);
         CHECKS.due("found(0) before any", -1, () -> x.found(0));
         x.motive(0, 2);
         x.find(0, 0, 0);
@@ -539,10 +471,10 @@ final class PromisesTest {
         CHECKS.illegalArgument("found(-1)", () -> x.found(-1));
         CHECKS.illegalArgument("found(LOW)", () -> x.found(LOW));
         x.find(1, 0, 0);
-        CHECKS.same("of the last find", "1 3 ", listOfFound(x));
+        CHECKS.same("of the last find", "1 3 ", Rows.found(x));
         x.entries(0, 0);
-        CHECKS.same("of the last entries", "0 2 ", listOfFound(x));
-        FormFinds all = full();
+        CHECKS.same("of the last entries", "0 2 ", Rows.found(x));
+        FormFinds all = Rows.full();
         all.motive(0, 1);
         all.find(0, 0, 0);
         CHECKS.due("the 60th", 59, () -> all.found(59));
@@ -550,19 +482,19 @@ final class PromisesTest {
     }
 
     private static void promise18Sections() {
-        FormFinds x = pitches(60, 62, 80, 82, 61);
+        FormFinds x = Rows.pitches(60, 62, 80, 82, 61);
         CHECKS.due("two jumps dearer than sections", 3, () -> x.sections(5, 1));
-        CHECKS.same("they", "0 2 4 cost 19", listOfSections(x));
+        CHECKS.same("they", "0 2 4 cost 19", Rows.sections(x));
         CHECKS.due("dear sections", 1, () -> x.sections(1000, 1));
-        CHECKS.same("it", "0 cost 1022", listOfSections(x));
+        CHECKS.same("it", "0 cost 1022", Rows.sections(x));
         CHECKS.due("sections for nothing", 5, () -> x.sections(0, 1));
-        CHECKS.same("they", "0 1 2 3 4 cost 0", listOfSections(x));
+        CHECKS.same("they", "0 1 2 3 4 cost 0", Rows.sections(x));
         CHECKS.due("heights for nothing", 1, () -> x.sections(7, 0));
-        CHECKS.same("it", "0 cost 7", listOfSections(x));
+        CHECKS.same("it", "0 cost 7", Rows.sections(x));
         CHECKS.due("all for nothing", 1, () -> x.sections(0, 0));
-        CHECKS.same("it", "0 cost 0", listOfSections(x));
+        CHECKS.same("it", "0 cost 0", Rows.sections(x));
         CHECKS.due("the dearest", 1, () -> x.sections(1000, 100));
-        CHECKS.same("it", "0 cost 3200", listOfSections(x));
+        CHECKS.same("it", "0 cost 3200", Rows.sections(x));
         for (int wrong : new int[] {LOW, -1, 1001, HIGH}) {
             CHECKS.illegalArgument("sections(" + wrong + ", 1)", () -> x.sections(wrong, 1));
         }
@@ -571,7 +503,7 @@ final class PromisesTest {
         }
         FormFinds none = new FormFinds();
         CHECKS.due("without notes", 0, () -> none.sections(1000, 100));
-        CHECKS.same("none", "cost 0", listOfSections(none));
+        CHECKS.same("none", "cost 0", Rows.sections(none));
     }
 
     /**
@@ -579,22 +511,22 @@ final class PromisesTest {
      * to one that costs no more and has fewer sections, so no test can tell which second begins first.)
      */
     private static void promise18SectionsAlikeInCost() {
-        FormFinds x = pitches(60, 61, 62);
+        FormFinds x = Rows.pitches(60, 61, 62);
         x.sections(1, 1);
-        CHECKS.same("one, two or three cost 3", "0 cost 3", listOfSections(x));
-        FormFinds y = pitches(0, 10, 20, 100, 110);
+        CHECKS.same("one, two or three cost 3", "0 cost 3", Rows.sections(x));
+        FormFinds y = Rows.pitches(0, 10, 20, 100, 110);
         y.sections(10, 1);
-        CHECKS.same("two to five cost 50", "0 3 cost 50", listOfSections(y));
-        FormFinds z = pitches(0, 40, 40, 80);
+        CHECKS.same("two to five cost 50", "0 3 cost 50", Rows.sections(y));
+        FormFinds z = Rows.pitches(0, 40, 40, 80);
         z.sections(10, 1);
-        CHECKS.same("those of one pitch together", "0 1 3 cost 30", listOfSections(z));
-        FormFinds w = pitches(5, 5, 5, 6);
+        CHECKS.same("those of one pitch together", "0 1 3 cost 30", Rows.sections(z));
+        FormFinds w = Rows.pitches(5, 5, 5, 6);
         w.sections(0, 1);
-        CHECKS.same("sections for nothing, but the fewest", "0 3 cost 0", listOfSections(w));
+        CHECKS.same("sections for nothing, but the fewest", "0 3 cost 0", Rows.sections(w));
     }
 
     private static void promise19Section() {
-        FormFinds x = pitches(60, 62, 80, 82, 61);
+        FormFinds x = Rows.pitches(60, 62, 80, 82, 61);
         CHECKS.due("section(0) before any", -1, () -> x.section(0));
         x.sections(5, 1);
         CHECKS.due("section(0)", 0, () -> x.section(0));
@@ -617,7 +549,7 @@ final class PromisesTest {
     }
 
     private static void promise20Of() {
-        FormFinds x = pitches(60, 62, 60, 62, 60);
+        FormFinds x = Rows.pitches(60, 62, 60, 62, 60);
         x.motive(1, 2);
         x.sections(3, 2);
         x.entries(0, 0);
@@ -636,38 +568,34 @@ final class PromisesTest {
 
     /** What was found last stays until it is looked for again, though notes come and go. */
     private static void whatWasFoundStays() {
-        FormFinds x = pitches(60, 62, 60, 62, 60);
+        FormFinds x = Rows.pitches(60, 62, 60, 62, 60);
         x.motive(0, 2);
         x.find(0, 0, 0);
         x.repeats(0, 1);
         x.sections(1, 1);
-        String before = stateFound(x);
+        String before = Rows.results(x);
         x.drop(5);
-        CHECKS.same("behind drop", before, stateFound(x));
+        CHECKS.same("behind drop", before, Rows.results(x));
         x.note(1, 1);
-        CHECKS.same("behind note", before, stateFound(x));
+        CHECKS.same("behind note", before, Rows.results(x));
         x.motive(0, 1);
-        CHECKS.same("behind motive", before, stateFound(x));
+        CHECKS.same("behind motive", before, Rows.results(x));
         x.passages(0, 1);
         x.period(0);
         x.alike(0, 0, 0, 1);
         x.form(3, 0, 0);
         x.answer(0, 0, 0);
-        CHECKS.same("behind what only asks", before, stateFound(x));
-        CHECKS.same("the sections among it", "0 cost 3", listOfSections(x));
-    }
-
-    private static String stateFound(FormFinds x) {
-        return listOfRepeats(x) + "; " + listOfFound(x) + "; " + listOfSections(x);
+        CHECKS.same("behind what only asks", before, Rows.results(x));
+        CHECKS.same("the sections among it", "0 cost 3", Rows.sections(x));
     }
 
     private static void throwingChangesNothing() {
-        FormFinds x = pitches(60, 62, 60, 62, 60);
+        FormFinds x = Rows.pitches(60, 62, 60, 62, 60);
         x.motive(0, 2);
         x.find(0, 0, 0);
         x.repeats(0, 1);
         x.sections(1, 1);
-        String before = stateFound(x) + listOfItems(x, 4) + listOfForm(x, 0);
+        String before = Rows.results(x) + Rows.items(x, 4) + Rows.form(x, 0);
         CHECKS.illegalArgument("note", () -> x.note(-1, 1));
         CHECKS.illegalArgument("drop", () -> x.drop(6));
         CHECKS.illegalArgument("item", () -> x.item(0, 5));
@@ -680,12 +608,12 @@ final class PromisesTest {
         CHECKS.illegalArgument("find", () -> x.find(1, 0, 1));
         CHECKS.illegalArgument("entries", () -> x.entries(0, 13));
         CHECKS.illegalArgument("sections", () -> x.sections(0, 101));
-        CHECKS.same("behind throws", before, stateFound(x) + listOfItems(x, 4) + listOfForm(x, 0));
-        FormFinds noMotive = pitches(60, 62);
+        CHECKS.same("behind throws", before, Rows.results(x) + Rows.items(x, 4) + Rows.form(x, 0));
+        FormFinds noMotive = Rows.pitches(60, 62);
         CHECKS.illegalState("find", () -> noMotive.find(0, 0, 0));
         CHECKS.illegalState("entries", () -> noMotive.entries(0, 0));
         CHECKS.due("found behind them", 0, () -> noMotive.of(3));
-        FormFinds all = full();
+        FormFinds all = Rows.full();
         CHECKS.illegalState("note", () -> all.note(1, 1));
         CHECKS.due("the last of 60", 64, () -> all.item(0, 59));
     }
